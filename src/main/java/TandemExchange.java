@@ -403,62 +403,53 @@ public final class TandemExchange {
         int y = command / 10 % 10;
         int z = command % 10;
         switch (command / 1000) {
-            case 1: return z == 0 && trialUnites(x, y);
-            case 2: return y == 0 && z == 0 && trialSeparates(x);
-            case 3: return x == 0 && y == 0 && z == 0 && trialMatches();
-            case 4: return x == 0 && trialSettles(command % 100);
-            case 5: return trialPassesWeek(command % 1000);
-            case 6: return trialGrades(x, y, 10 * z);
-            case 7: return z == 0 && trial.has(x) && trial.has(y) && trial.members[x].partner == y;
-            case 8: return x == 0 && y == 0 && trial.countPairs() == z;
-            case 9: return trial.has(x) && y < LANGUAGES && trial.members[x].levels[y] == z;
-            default: return false;
+            case 1:
+                if (z != 0 || !trial.has(x) || !trial.has(y) || x == y || !trial.canBecomePartners(x, y)) {
+                    return false;
+                }
+                trial.unite(x, y);
+                return true;
+            case 2:
+                if (y != 0 || z != 0 || !trial.has(x) || trial.isFree(x)) {
+                    return false;
+                }
+                trial.separate(x);
+                return true;
+            case 3:
+                if (x != 0 || y != 0 || z != 0) {
+                    return false;
+                }
+                trial.matchFree();
+                return true;
+            case 4:
+                int steps = 10 * y + z;
+                if (x != 0 || steps < 1 || steps > MOST_STEPS) {
+                    return false;
+                }
+                trial.settleBy(steps);
+                return true;
+            case 5:
+                int absent = 100 * x + 10 * y + z;
+                if (absent > MOST_ABSENT) {
+                    return false;
+                }
+                trial.passWeek(absent);
+                return true;
+            case 6:
+                if (!trial.has(x) || y >= LANGUAGES) {
+                    return false;
+                }
+                trial.grade(x, y, 10 * z);
+                return true;
+            case 7:
+                return z == 0 && trial.has(x) && trial.has(y) && trial.members[x].partner == y;
+            case 8:
+                return x == 0 && y == 0 && trial.countPairs() == z;
+            case 9:
+                return trial.has(x) && y < LANGUAGES && trial.members[x].levels[y] == z;
+            default:
+                return false;
         }
-    }
-
-    private boolean trialUnites(int a, int b) {
-        if (!trial.has(a) || !trial.has(b) || a == b || !trial.canBecomePartners(a, b)) {
-            return false;
-        }
-        trial.unite(a, b);
-        return true;
-    }
-
-    private boolean trialSeparates(int a) {
-        if (!trial.has(a) || trial.isFree(a)) {
-            return false;
-        }
-        trial.separate(a);
-        return true;
-    }
-
-    private boolean trialMatches() {
-        trial.matchFree();
-        return true;
-    }
-
-    private boolean trialSettles(int steps) {
-        if (steps < 1 || steps > MOST_STEPS) {
-            return false;
-        }
-        trial.settleBy(steps);
-        return true;
-    }
-
-    private boolean trialPassesWeek(int absent) {
-        if (absent > MOST_ABSENT) {
-            return false;
-        }
-        trial.passWeek(absent);
-        return true;
-    }
-
-    private boolean trialGrades(int a, int language, int points) {
-        if (!trial.has(a) || language >= LANGUAGES) {
-            return false;
-        }
-        trial.grade(a, language, points);
-        return true;
     }
 
     /** One member; the partner is a number of the circle that the member is in, or NONE. */

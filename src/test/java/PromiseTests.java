@@ -44,6 +44,7 @@ public final class PromiseTests {
         simulate();
         save();
         restore();
+        nineMembers();
         questionsChangeNothing();
         check.end();
     }
@@ -858,7 +859,7 @@ public final class PromiseTests {
 
     private static void runScriptGroups() {
         succeed(1010, 1100, 1230, 3000, 4001, 4010, 4050, 5000, 5007, 5511, 6000, 6339, 8000, 9005, 9012, 9330);
-        fail(0, 1, 999, 1011, 1020, 1000, 1040, 1400, 1990, 2000, 2400, 2900, 3001, 3010, 3100);
+        fail(0, 1, 999, 1011, 1020, 1000, 1040, 1400, 1090, 1900, 1990, 2000, 2400, 2900, 3001, 3010, 3100);
         fail(4000, 4051, 4099, 4101, 5512, 5999, 6400, 6900, 6040, 6090, 7010, 7000, 7040, 7400, 8001, 8010, 8100);
         fail(9004, 9040, 9400, 9990);
         TandemExchange x = paired(CHAIN, 0, 1);
@@ -877,6 +878,8 @@ public final class PromiseTests {
         runs(x, NONE, 2, 6008_8000L);
         runs(x, 1, 2, 6007_8000L);
         runs(x, NONE, 4, 5000_5000_5496_9006L);
+        // A test to the present level leaves no progress, so that two meetings with 8 points are too few.
+        runs(x, NONE, 4, 6005_5000_5000_9005L);
         runs(x, 3, 4, 5000_5000_5496_9005L);
         // Three weeks missed: the pair is gone, and the absent number is decimal.
         runs(x, NONE, 4, 5001_5001_5001_8000L);
@@ -960,6 +963,41 @@ public final class PromiseTests {
         check.is(0, x.restore(0), "restore(0): the slot keeps it");
         partnersAre(x, 1, 0);
         check.is(17, x.clearText(), "clearText() after restore()");
+    }
+
+    /** Five members want what four others teach, and the other way round; all are equally good. */
+    private static void nineMembers() {
+        check.part("nine members");
+        TandemExchange x = loaded("L" + "m0090000m1900000".repeat(4) + "m0090000");
+        aboutIs(x, 9, 0, 0, 0, 20, 0, 20);
+        for (int a = 0; a < 9; a++) {
+            check.is(4 + a % 2, x.member(a, 10), "member(" + a + ", 10)");
+            check.is(1 - a % 2, x.bestPartner(a, true), "bestPartner(" + a + ", true)");
+        }
+        check.is(7, x.blocking(19, false), "blocking(19, false)");
+        check.is(8, x.blocking(19, true), "blocking(19, true)");
+        check.is(NONE, x.blocking(20, true), "blocking(20, true)");
+        check.is(4, x.best(0), "best(0)");
+        check.is(720, x.best(1), "best(1)");
+        check.is(1, x.missedMost(), "missedMost()");
+        check.is(4, x.settle(50), "settle(50)");
+        x.undo();
+        check.is(4, x.match(), "match()");
+        aboutIs(x, 9, 4, 0, 720, 0, 0, 20);
+        check.is(4, x.week(256), "week(256)");
+        aboutIs(x, 9, 4, 1, 720, 0, 8, 20);
+        x.leave(1);
+        partnersAre(x, NONE, 2, 1, 4, 3, 6, 5, NONE);
+        aboutIs(x, 8, 3, 1, 540, 0, 7, 15);
+        x.leave(7);
+        x.leave(0);
+        partnersAre(x, 1, 0, 3, 2, 5, 4);
+        aboutIs(x, 6, 3, 1, 540, 0, 6, 9);
+        check.is(0, x.settle(50), "settle(50) without blocking members");
+        check.is(6, x.join(1, 9999, 0), "join(1, 9999, 0)");
+        check.is(3, x.best(0), "best(0)");
+        check.outOfBounds(() -> x.member(7, 0), "member(7, 0)");
+        runs(x, 0, 1, 1070);
     }
 
     private static void questionsChangeNothing() {

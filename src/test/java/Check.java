@@ -16,6 +16,25 @@ final class Check {
         count(due == got, call + " answered " + got + ", due is " + due);
     }
 
+    /** Compares the first numbers of a member, as many as are due. */
+    void memberIs(TandemExchange x, int a, int... due) {
+        for (int what = 0; what < due.length; what++) {
+            is(due[what], x.member(a, what), "member(" + a + ", " + what + ")");
+        }
+    }
+
+    void aboutIs(TandemExchange x, int... due) {
+        for (int what = 0; what < due.length; what++) {
+            is(due[what], x.about(what), "about(" + what + ")");
+        }
+    }
+
+    void partnersAre(TandemExchange x, int... due) {
+        for (int a = 0; a < due.length; a++) {
+            is(due[a], x.member(a, 8), "partner of " + a);
+        }
+    }
+
     void that(boolean holds, String what) {
         count(holds, what);
     }

@@ -2,13 +2,6 @@
 public final class PromiseTests {
     private static final int NONE = TandemExchange.NONE;
 
-    // Two members with leads of 6 levels, who teach each other; their credits are 10 and 13.
-    private static final String TWO = "Lm0290010m1830013";
-    // Only 0 and 1, 1 and 2, 2 and 3 fit; their values are 60, 180 and 60.
-    private static final String CHAIN = "Lm0520000m1900000m0090000m1250000";
-    // 0 and 1 want what 2 and 3 teach and the other way round; all are equally good.
-    private static final String SQUARE = "Lm0090000m0090000m1900000m1900000";
-
     private static final Check check = new Check();
 
     public static void main(String[] args) {
@@ -49,55 +42,10 @@ public final class PromiseTests {
         check.end();
     }
 
-    private static TandemExchange withText(String text) {
-        TandemExchange x = new TandemExchange();
-        type(x, text);
-        return x;
-    }
-
-    private static void type(TandemExchange x, String text) {
-        for (int i = 0; i < text.length(); i++) {
-            x.append(text.charAt(i));
-        }
-    }
-
-    private static TandemExchange loaded(String text) {
-        TandemExchange x = withText(text);
-        x.load();
-        return x;
-    }
-
-    private static TandemExchange paired(String text, int... members) {
-        TandemExchange x = loaded(text);
-        for (int i = 0; i < members.length; i += 2) {
-            x.pair(members[i], members[i + 1]);
-        }
-        return x;
-    }
-
-    /** Compares all numbers of a member but 10, the count of those who fit. */
-    private static void memberIs(TandemExchange x, int a, int... due) {
-        for (int what = 0; what < due.length; what++) {
-            check.is(due[what], x.member(a, what), "member(" + a + ", " + what + ")");
-        }
-    }
-
-    private static void aboutIs(TandemExchange x, int... due) {
-        for (int what = 0; what < due.length; what++) {
-            check.is(due[what], x.about(what), "about(" + what + ")");
-        }
-    }
-
-    private static void partnersAre(TandemExchange x, int... due) {
-        for (int a = 0; a < due.length; a++) {
-            check.is(due[a], x.member(a, 8), "partner of " + a);
-        }
-    }
-
     private static void newObject() {
         check.part("promise 1");
         TandemExchange x = new TandemExchange();
-        aboutIs(x, 0, 0, 0, 0, 0, 0, 0);
+        check.aboutIs(x, 0, 0, 0, 0, 0, 0, 0);
         check.is(0, x.errorPosition(), "errorPosition()");
         check.is(0, x.clearText(), "clearText()");
         check.outOfBounds(() -> x.member(0, 0), "member(0, 0)");
@@ -127,7 +75,7 @@ public final class PromiseTests {
 
     private static void clearText() {
         check.part("promise 3");
-        TandemExchange x = withText("Lm0");
+        TandemExchange x = Circles.withText("Lm0");
         check.is(3, x.clearText(), "clearText()");
         check.is(0, x.clearText(), "clearText() again");
         check.is(0, x.errorPosition(), "errorPosition()");
@@ -135,7 +83,7 @@ public final class PromiseTests {
     }
 
     private static void errorAt(int due, String text) {
-        check.is(due, withText(text).errorPosition(), "errorPosition() of '" + text + "'");
+        check.is(due, Circles.withText(text).errorPosition(), "errorPosition() of '" + text + "'");
     }
 
     private static void errorPosition() {
@@ -173,19 +121,19 @@ public final class PromiseTests {
 
     private static void load() {
         check.part("promise 5");
-        TandemExchange x = withText("L");
+        TandemExchange x = Circles.withText("L");
         check.is(0, x.load(), "load() of 'L'");
         x.clearText();
         check.badState(() -> x.load(), "load() of ''");
-        type(x, TWO);
+        Circles.type(x, Circles.TWO);
         check.is(2, x.load(), "load()");
-        memberIs(x, 0, 2, 9, 0, 0, 0, 0, 10, 0, NONE, NONE);
-        memberIs(x, 1, 8, 3, 0, 0, 1, 0, 13, 0, NONE, NONE);
+        check.memberIs(x, 0, 2, 9, 0, 0, 0, 0, 10, 0, NONE, NONE);
+        check.memberIs(x, 1, 8, 3, 0, 0, 1, 0, 13, 0, NONE, NONE);
         loadReplacesEverything(x);
 
-        TandemExchange y = loaded("L" + "m3123499".repeat(9));
+        TandemExchange y = Circles.loaded("L" + "m3123499".repeat(9));
         check.is(9, y.about(0), "about(0)");
-        memberIs(y, 8, 1, 2, 3, 4, 3, 0, 99, 0, NONE, NONE);
+        check.memberIs(y, 8, 1, 2, 3, 4, 3, 0, 99, 0, NONE, NONE);
         y.save(0);
         y.week(0);
         y.append('m');
@@ -203,9 +151,9 @@ public final class PromiseTests {
         x.save(1);
         check.is(2, x.load(), "load() again");
         check.is(17, x.clearText(), "clearText() after load()");
-        memberIs(x, 0, 2, 9, 0, 0, 0, 0, 10, 0, NONE, NONE);
-        memberIs(x, 1, 8, 3, 0, 0, 1, 0, 13, 0, NONE, NONE);
-        aboutIs(x, 2, 0, 0, 0, 1, 23, 1);
+        check.memberIs(x, 0, 2, 9, 0, 0, 0, 0, 10, 0, NONE, NONE);
+        check.memberIs(x, 1, 8, 3, 0, 0, 1, 0, 13, 0, NONE, NONE);
+        check.aboutIs(x, 2, 0, 0, 0, 1, 23, 1);
         check.badState(() -> x.undo(), "undo() after load()");
         check.badState(() -> x.restore(0), "restore(0) after load()");
         check.badState(() -> x.restore(1), "restore(1) after load()");
@@ -213,32 +161,32 @@ public final class PromiseTests {
 
     private static void about() {
         check.part("promise 6");
-        TandemExchange x = loaded(CHAIN);
-        aboutIs(x, 4, 0, 0, 0, 3, 0, 3);
+        TandemExchange x = Circles.loaded(Circles.CHAIN);
+        check.aboutIs(x, 4, 0, 0, 0, 3, 0, 3);
         x.pair(0, 1);
-        aboutIs(x, 4, 1, 0, 60, 2, 0, 3);
+        check.aboutIs(x, 4, 1, 0, 60, 2, 0, 3);
         x.pair(2, 3);
-        aboutIs(x, 4, 2, 0, 120, 1, 0, 3);
+        check.aboutIs(x, 4, 2, 0, 120, 1, 0, 3);
         x.week(1);
         // 0 is absent, so that 1 gets 2 credits and 0 loses 3; 2 and 3 meet.
-        aboutIs(x, 4, 2, 1, 60 - 5 - 1 + 120 - 60, 1, 2 - 3 + 2, 3);
+        check.aboutIs(x, 4, 2, 1, 60 - 5 - 1 + 120 - 60, 1, 2 - 3 + 2, 3);
         x.join(2, 9999, -99);
-        aboutIs(x, 5, 2, 1, 114, 1, -98, 3);
+        check.aboutIs(x, 5, 2, 1, 114, 1, -98, 3);
         check.badArgument(() -> x.about(-1), "about(-1)");
         check.badArgument(() -> x.about(7), "about(7)");
     }
 
     private static void member() {
         check.part("promise 7");
-        TandemExchange x = paired("Lm2123456m0090000m1900000m0090007", 1, 2);
-        memberIs(x, 0, 1, 2, 3, 4, 2, 0, 56, 0, NONE, NONE, 0);
-        memberIs(x, 1, 0, 9, 0, 0, 0, 0, 0, 0, 2, 0, 1);
-        memberIs(x, 2, 9, 0, 0, 0, 1, 0, 0, 0, 1, 0, 2);
-        memberIs(x, 3, 0, 9, 0, 0, 0, 0, 7, 0, NONE, NONE, 1);
+        TandemExchange x = Circles.paired("Lm2123456m0090000m1900000m0090007", 1, 2);
+        check.memberIs(x, 0, 1, 2, 3, 4, 2, 0, 56, 0, NONE, NONE, 0);
+        check.memberIs(x, 1, 0, 9, 0, 0, 0, 0, 0, 0, 2, 0, 1);
+        check.memberIs(x, 2, 9, 0, 0, 0, 1, 0, 0, 0, 1, 0, 2);
+        check.memberIs(x, 3, 0, 9, 0, 0, 0, 0, 7, 0, NONE, NONE, 1);
         x.week(0);
         x.week(2);
-        memberIs(x, 1, 0, 9, 0, 0, 0, 13, -2, 1, 2, 1, 1);
-        memberIs(x, 2, 9, 0, 0, 0, 1, 13, 3, 0, 1, 1, 2);
+        check.memberIs(x, 1, 0, 9, 0, 0, 0, 13, -2, 1, 2, 1, 1);
+        check.memberIs(x, 2, 9, 0, 0, 0, 1, 13, 3, 0, 1, 1, 2);
         check.outOfBounds(() -> x.member(-1, 0), "member(-1, 0)");
         check.outOfBounds(() -> x.member(4, 0), "member(4, 0)");
         check.outOfBounds(() -> x.member(4, 11), "member(4, 11)");
@@ -248,7 +196,7 @@ public final class PromiseTests {
 
     private static void both() {
         check.part("promise 8");
-        TandemExchange x = loaded(TWO);
+        TandemExchange x = Circles.loaded(Circles.TWO);
         check.is(63, x.both(0, 1, 0), "both(0, 1, 0)");
         check.is(62, x.both(1, 0, 0), "both(1, 0, 0)");
         check.is(125, x.both(0, 1, 1), "both(0, 1, 1)");
@@ -300,7 +248,7 @@ public final class PromiseTests {
     }
 
     private static void bothBlock() {
-        TandemExchange x = paired(SQUARE, 0, 2);
+        TandemExchange x = Circles.paired(Circles.SQUARE, 0, 2);
         check.is(0, x.both(0, 3, 3), "both(0, 3, 3): the partner has the same score");
         check.is(0, x.both(0, 1, 3), "both(0, 1, 3): they do not fit");
         check.is(1, x.both(1, 3, 3), "both(1, 3, 3): both are free");
@@ -320,9 +268,9 @@ public final class PromiseTests {
         check.is(0, x.join(0, 0, -99), "join(0, 0, -99)");
         check.is(1, x.join(3, 9999, 99), "join(3, 9999, 99)");
         check.is(2, x.join(2, 1234, -7), "join(2, 1234, -7)");
-        memberIs(x, 0, 0, 0, 0, 0, 0, 0, -99, 0, NONE, NONE);
-        memberIs(x, 1, 9, 9, 9, 9, 3, 0, 99, 0, NONE, NONE);
-        memberIs(x, 2, 1, 2, 3, 4, 2, 0, -7, 0, NONE, NONE);
+        check.memberIs(x, 0, 0, 0, 0, 0, 0, 0, -99, 0, NONE, NONE);
+        check.memberIs(x, 1, 9, 9, 9, 9, 3, 0, 99, 0, NONE, NONE);
+        check.memberIs(x, 2, 1, 2, 3, 4, 2, 0, -7, 0, NONE, NONE);
         check.badArgument(() -> x.join(-1, 0, 0), "join(-1, 0, 0)");
         check.badArgument(() -> x.join(4, 0, 0), "join(4, 0, 0)");
         check.badArgument(() -> x.join(0, -1, 0), "join(0, -1, 0)");
@@ -341,91 +289,91 @@ public final class PromiseTests {
     }
 
     private static void joinAfterPairs() {
-        TandemExchange x = paired(TWO, 0, 1);
+        TandemExchange x = Circles.paired(Circles.TWO, 0, 1);
         x.week(1);
         x.leave(0);
         check.is(1, x.join(1, 5005, 1), "join(1, 5005, 1)");
-        memberIs(x, 1, 5, 0, 0, 5, 1, 0, 1, 0, NONE, NONE);
+        check.memberIs(x, 1, 5, 0, 0, 5, 1, 0, 1, 0, NONE, NONE);
     }
 
     private static void leave() {
         check.part("promise 10");
-        TandemExchange x = paired("Lm2123456m0090001m1900002m0090003m1900004", 1, 4, 3, 2);
+        TandemExchange x = Circles.paired("Lm2123456m0090001m1900002m0090003m1900004", 1, 4, 3, 2);
         x.week(4);
         check.is(56, x.leave(0), "leave(0)");
-        partnersAre(x, 3, 2, 1, 0);
-        memberIs(x, 1, 9, 0, 0, 0, 1, 0, -1, 1, 2, 1);
-        memberIs(x, 3, 9, 0, 0, 0, 1, 13, 5, 0, 0, 0);
+        check.partnersAre(x, 3, 2, 1, 0);
+        check.memberIs(x, 1, 9, 0, 0, 0, 1, 0, -1, 1, 2, 1);
+        check.memberIs(x, 3, 9, 0, 0, 0, 1, 13, 5, 0, 0, 0);
         check.is(-1, x.leave(1), "leave(1)");
-        partnersAre(x, 2, NONE, 0);
+        check.partnersAre(x, 2, NONE, 0);
         check.is(5, x.member(1, 6), "member(1, 6)");
         check.is(5, x.leave(2), "leave(2)");
-        partnersAre(x, NONE, NONE);
+        check.partnersAre(x, NONE, NONE);
         check.is(2, x.about(0), "about(0)");
         check.outOfBounds(() -> x.leave(2), "leave(2)");
         check.outOfBounds(() -> x.leave(-1), "leave(-1)");
         check.is(5, x.undo(), "undo()");
-        partnersAre(x, 2, NONE, 0);
+        check.partnersAre(x, 2, NONE, 0);
     }
 
     private static void want() {
         check.part("promise 11");
-        TandemExchange x = paired(TWO, 0, 1);
+        TandemExchange x = Circles.paired(Circles.TWO, 0, 1);
         x.week(0);
         check.is(0, x.want(0, 0), "want(0, 0)");
-        memberIs(x, 0, 2, 9, 0, 0, 0, 0, 11, 0, 1, 0);
-        memberIs(x, 1, 8, 3, 0, 0, 1, 10, 14, 0, 0, 0);
+        check.memberIs(x, 0, 2, 9, 0, 0, 0, 0, 11, 0, 1, 0);
+        check.memberIs(x, 1, 8, 3, 0, 0, 1, 10, 14, 0, 0, 0);
         check.is(0, x.want(0, 3), "want(0, 3)");
-        memberIs(x, 0, 2, 9, 0, 0, 3, 0, 11, 0, NONE, NONE);
-        memberIs(x, 1, 8, 3, 0, 0, 1, 10, 14, 0, NONE, NONE);
+        check.memberIs(x, 0, 2, 9, 0, 0, 3, 0, 11, 0, NONE, NONE);
+        check.memberIs(x, 1, 8, 3, 0, 0, 1, 10, 14, 0, NONE, NONE);
         check.is(3, x.want(0, 0), "want(0, 0)");
-        partnersAre(x, NONE, NONE);
+        check.partnersAre(x, NONE, NONE);
         check.is(1, x.want(1, 2), "want(1, 2)");
         check.is(0, x.member(1, 5), "member(1, 5)");
         check.outOfBounds(() -> x.want(2, 0), "want(2, 0)");
         check.outOfBounds(() -> x.want(-1, 4), "want(-1, 4)");
         check.badArgument(() -> x.want(0, 4), "want(0, 4)");
         check.badArgument(() -> x.want(0, -1), "want(0, -1)");
-        TandemExchange y = paired("Lm0330000m1800000", 0, 1);
+        TandemExchange y = Circles.paired("Lm0330000m1800000", 0, 1);
         y.test(1, 3, 50);
         y.want(0, 3);
-        partnersAre(y, 1, 0);
+        check.partnersAre(y, 1, 0);
     }
 
     private static void test() {
         check.part("promise 12");
-        TandemExchange x = paired(TWO, 0, 1);
+        TandemExchange x = Circles.paired(Circles.TWO, 0, 1);
         x.week(0);
         check.is(0, x.test(0, 3, 99), "test(0, 3, 99)");
-        memberIs(x, 0, 2, 9, 0, 9, 0, 10, 11, 0, 1, 0);
+        check.memberIs(x, 0, 2, 9, 0, 9, 0, 10, 11, 0, 1, 0);
         check.is(9, x.test(0, 1, 50), "test(0, 1, 50)");
-        partnersAre(x, 1, 0);
+        check.partnersAre(x, 1, 0);
         check.is(2, x.test(0, 0, 69), "test(0, 0, 69)");
-        memberIs(x, 0, 6, 5, 0, 9, 0, 18, 11, 0, 1, 0);
+        check.memberIs(x, 0, 6, 5, 0, 9, 0, 18, 11, 0, 1, 0);
         check.is(6, x.test(0, 0, 70), "test(0, 0, 70)");
-        memberIs(x, 0, 7, 5, 0, 9, 0, 0, 11, 0, NONE, NONE);
-        memberIs(x, 1, 8, 3, 0, 0, 1, 10, 14, 0, NONE, NONE);
+        check.memberIs(x, 0, 7, 5, 0, 9, 0, 0, 11, 0, NONE, NONE);
+        check.memberIs(x, 1, 8, 3, 0, 0, 1, 10, 14, 0, NONE, NONE);
         check.is(7, x.test(0, 0, 95), "test(0, 0, 95)");
-        memberIs(x, 0, 9, 5, 0, 9, 0, 10);
+        check.memberIs(x, 0, 9, 5, 0, 9, 0, 10);
         check.is(9, x.test(0, 0, 0), "test(0, 0, 0)");
-        memberIs(x, 0, 0, 5, 0, 9, 0, 0);
-        partnersAre(x, NONE, NONE);
+        check.memberIs(x, 0, 0, 5, 0, 9, 0, 0);
+        check.partnersAre(x, NONE, NONE);
         check.outOfBounds(() -> x.test(2, 0, 0), "test(2, 0, 0)");
         check.outOfBounds(() -> x.test(-1, 4, 100), "test(-1, 4, 100)");
         check.badArgument(() -> x.test(0, -1, 0), "test(0, -1, 0)");
         check.badArgument(() -> x.test(0, 4, 0), "test(0, 4, 0)");
         check.badArgument(() -> x.test(0, 0, -1), "test(0, 0, -1)");
         check.badArgument(() -> x.test(0, 0, 100), "test(0, 0, 100)");
-        TandemExchange y = paired(TWO, 0, 1);
+        TandemExchange y = Circles.paired(Circles.TWO, 0, 1);
         check.is(9, y.test(0, 1, 49), "test(0, 1, 49)");
-        partnersAre(y, NONE, NONE);
+        check.partnersAre(y, NONE, NONE);
     }
 
     private static void pair() {
         check.part("promise 13");
-        TandemExchange x = loaded(CHAIN);
+        TandemExchange x = Circles.loaded(Circles.CHAIN);
         check.is(60, x.pair(1, 0), "pair(1, 0)");
-        partnersAre(x, 1, 0, NONE, NONE);
+        check.partnersAre(x, 1, 0, NONE, NONE);
         check.badState(() -> x.pair(0, 1), "pair(0, 1) of partners");
         check.badState(() -> x.pair(1, 2), "pair(1, 2): 1 has a partner");
         check.badState(() -> x.pair(2, 1), "pair(2, 1): 1 has a partner");
@@ -447,64 +395,64 @@ public final class PromiseTests {
 
     private static void part() {
         check.part("promise 14");
-        TandemExchange x = paired(CHAIN, 0, 1, 2, 3);
+        TandemExchange x = Circles.paired(Circles.CHAIN, 0, 1, 2, 3);
         check.is(2, x.part(3), "part(3)");
-        partnersAre(x, 1, 0, NONE, NONE);
+        check.partnersAre(x, 1, 0, NONE, NONE);
         check.badState(() -> x.part(2), "part(2)");
         check.badState(() -> x.part(3), "part(3) again");
         check.is(1, x.part(0), "part(0)");
-        partnersAre(x, NONE, NONE, NONE, NONE);
+        check.partnersAre(x, NONE, NONE, NONE, NONE);
         check.outOfBounds(() -> x.part(4), "part(4)");
         check.outOfBounds(() -> x.part(-1), "part(-1)");
         check.is(3, x.undo(), "undo()");
-        partnersAre(x, 1, 0, NONE, NONE);
+        check.partnersAre(x, 1, 0, NONE, NONE);
     }
 
     private static void match() {
         check.part("promise 15");
-        TandemExchange x = loaded(CHAIN);
+        TandemExchange x = Circles.loaded(Circles.CHAIN);
         check.is(1, x.match(), "match()");
-        partnersAre(x, NONE, 2, 1, NONE);
+        check.partnersAre(x, NONE, 2, 1, NONE);
         check.is(0, x.match(), "match() again");
-        TandemExchange y = paired(CHAIN, 0, 1);
+        TandemExchange y = Circles.paired(Circles.CHAIN, 0, 1);
         check.is(1, y.match(), "match() beside a pair");
-        partnersAre(y, 1, 0, 3, 2);
-        TandemExchange square = loaded(SQUARE);
+        check.partnersAre(y, 1, 0, 3, 2);
+        TandemExchange square = Circles.loaded(Circles.SQUARE);
         check.is(2, square.match(), "match() of equals");
-        partnersAre(square, 2, 3, 0, 1);
-        TandemExchange z = loaded("Lm0090000m0090000m1900000m1900004");
+        check.partnersAre(square, 2, 3, 0, 1);
+        TandemExchange z = Circles.loaded("Lm0090000m0090000m1900000m1900004");
         check.is(2, z.match(), "match() with a best one");
-        partnersAre(z, 3, 2, 1, 0);
+        check.partnersAre(z, 3, 2, 1, 0);
         TandemExchange worst = new TandemExchange();
         worst.join(0, 200, -99);
         worst.join(1, 2000, -99);
         check.is(1, worst.match(), "match() with a value below 0");
         check.is(-10, worst.about(3), "about(3)");
-        TandemExchange many = loaded("L" + "m0090000m1900000".repeat(4) + "m0090000");
+        TandemExchange many = Circles.loaded("L" + "m0090000m1900000".repeat(4) + "m0090000");
         check.is(4, many.match(), "match() of nine");
-        partnersAre(many, 1, 0, 3, 2, 5, 4, 7, 6, NONE);
+        check.partnersAre(many, 1, 0, 3, 2, 5, 4, 7, 6, NONE);
         check.is(0, new TandemExchange().match(), "match() of nobody");
     }
 
     private static void settle() {
         check.part("promise 16");
-        TandemExchange x = loaded(CHAIN);
+        TandemExchange x = Circles.loaded(Circles.CHAIN);
         check.is(1, x.settle(1), "settle(1)");
-        partnersAre(x, 1, 0, NONE, NONE);
+        check.partnersAre(x, 1, 0, NONE, NONE);
         check.is(1, x.settle(1), "settle(1) again");
-        partnersAre(x, NONE, 2, 1, NONE);
+        check.partnersAre(x, NONE, 2, 1, NONE);
         check.is(0, x.settle(50), "settle(50) without blocking members");
-        TandemExchange y = loaded(CHAIN);
+        TandemExchange y = Circles.loaded(Circles.CHAIN);
         check.is(2, y.settle(50), "settle(50)");
-        partnersAre(y, NONE, 2, 1, NONE);
-        TandemExchange z = paired(CHAIN, 0, 1, 2, 3);
+        check.partnersAre(y, NONE, 2, 1, NONE);
+        TandemExchange z = Circles.paired(Circles.CHAIN, 0, 1, 2, 3);
         z.week(2);
         check.is(1, z.settle(2), "settle(2) of two pairs");
-        partnersAre(z, NONE, 2, 1, NONE);
+        check.partnersAre(z, NONE, 2, 1, NONE);
         check.is(0, z.member(1, 9), "member(1, 9) of a new pair");
-        TandemExchange square = loaded(SQUARE);
+        TandemExchange square = Circles.loaded(Circles.SQUARE);
         check.is(2, square.settle(3), "settle(3)");
-        partnersAre(square, 2, 3, 0, 1);
+        check.partnersAre(square, 2, 3, 0, 1);
         check.badArgument(() -> x.settle(0), "settle(0)");
         check.badArgument(() -> x.settle(51), "settle(51)");
         check.is(2, x.undo(), "undo()");
@@ -512,31 +460,31 @@ public final class PromiseTests {
 
     private static void week() {
         check.part("promise 17");
-        TandemExchange x = paired(TWO, 0, 1);
+        TandemExchange x = Circles.paired(Circles.TWO, 0, 1);
         check.is(1, x.week(508), "week(508): absent are none who exist");
-        memberIs(x, 0, 2, 9, 0, 0, 0, 10, 11, 0, 1, 0);
-        memberIs(x, 1, 8, 3, 0, 0, 1, 10, 14, 0, 0, 0);
+        check.memberIs(x, 0, 2, 9, 0, 0, 0, 10, 11, 0, 1, 0);
+        check.memberIs(x, 1, 8, 3, 0, 0, 1, 10, 14, 0, 0, 0);
         check.is(1, x.week(1), "week(1)");
-        memberIs(x, 0, 2, 9, 0, 0, 0, 10, 8, 1, 1, 1);
-        memberIs(x, 1, 8, 3, 0, 0, 1, 10, 16, 0, 0, 1);
+        check.memberIs(x, 0, 2, 9, 0, 0, 0, 10, 8, 1, 1, 1);
+        check.memberIs(x, 1, 8, 3, 0, 0, 1, 10, 16, 0, 0, 1);
         check.is(1, x.week(511), "week(511)");
-        memberIs(x, 0, 2, 9, 0, 0, 0, 10, 5, 2, 1, 2);
-        memberIs(x, 1, 8, 3, 0, 0, 1, 10, 13, 1, 0, 2);
+        check.memberIs(x, 0, 2, 9, 0, 0, 0, 10, 5, 2, 1, 2);
+        check.memberIs(x, 1, 8, 3, 0, 0, 1, 10, 13, 1, 0, 2);
         check.is(1, x.week(0), "week(0)");
-        memberIs(x, 0, 3, 9, 0, 0, 0, 0, 6, 2, 1, 0);
-        memberIs(x, 1, 8, 4, 0, 0, 1, 0, 14, 1, 0, 0);
+        check.memberIs(x, 0, 3, 9, 0, 0, 0, 0, 6, 2, 1, 0);
+        check.memberIs(x, 1, 8, 4, 0, 0, 1, 0, 14, 1, 0, 0);
         x.week(1);
         x.week(1);
         check.is(0, x.week(2), "week(2), the third one that is missed");
-        memberIs(x, 0, 3, 9, 0, 0, 0, 0, 2, 4, NONE, NONE);
-        memberIs(x, 1, 8, 4, 0, 0, 1, 0, 15, 2, NONE, NONE);
+        check.memberIs(x, 0, 3, 9, 0, 0, 0, 0, 2, 4, NONE, NONE);
+        check.memberIs(x, 1, 8, 4, 0, 0, 1, 0, 15, 2, NONE, NONE);
         check.is(7, x.about(2), "about(2)");
         check.is(0, x.week(3), "week(3) without a pair");
-        memberIs(x, 0, 3, 9, 0, 0, 0, 0, 2, 4, NONE, NONE);
+        check.memberIs(x, 0, 3, 9, 0, 0, 0, 0, 2, 4, NONE, NONE);
         check.badArgument(() -> x.week(-1), "week(-1)");
         check.badArgument(() -> x.week(512), "week(512)");
         check.is(8, x.about(2), "about(2) after weeks that throw");
-        TandemExchange last = paired("L" + "m2999900".repeat(7) + "m0090000m1900000", 7, 8);
+        TandemExchange last = Circles.paired("L" + "m2999900".repeat(7) + "m0090000m1900000", 7, 8);
         last.week(256);
         check.is(0, last.member(7, 7), "member(7, 7)");
         check.is(1, last.member(8, 7), "member(8, 7)");
@@ -544,22 +492,22 @@ public final class PromiseTests {
 
     /** The leads shrink from 6 to 1; the points of each meeting are 4 plus the lead. */
     private static void weekOfLevels() {
-        TandemExchange x = paired(TWO, 0, 1);
+        TandemExchange x = Circles.paired(Circles.TWO, 0, 1);
         int[] progress = {10, 0, 9, 18, 7, 15, 3, 10, 17, 4, 10, 16, 2, 2};
         int[] rises = {0, 1, 1, 1, 2, 2, 3, 3, 3, 4, 4, 4, 5, 5};
         for (int i = 0; i < progress.length; i++) {
             check.is(i < 12 ? 1 : 0, x.week(0), "week(0)");
-            memberIs(x, 0, 2 + rises[i], 9, 0, 0, 0, progress[i], 10 + Math.min(i + 1, 13));
-            memberIs(x, 1, 8, 3 + rises[i], 0, 0, 1, progress[i]);
+            check.memberIs(x, 0, 2 + rises[i], 9, 0, 0, 0, progress[i], 10 + Math.min(i + 1, 13));
+            check.memberIs(x, 1, 8, 3 + rises[i], 0, 0, 1, progress[i]);
         }
-        partnersAre(x, NONE, NONE);
-        TandemExchange uneven = paired("Lm0070000m1950000", 0, 1);
+        check.partnersAre(x, NONE, NONE);
+        TandemExchange uneven = Circles.paired("Lm0070000m1950000", 0, 1);
         uneven.week(0);
-        memberIs(uneven, 0, 0, 7, 0, 0, 0, 13);
-        memberIs(uneven, 1, 9, 5, 0, 0, 1, 6);
+        check.memberIs(uneven, 0, 0, 7, 0, 0, 0, 13);
+        check.memberIs(uneven, 1, 9, 5, 0, 0, 1, 6);
         uneven.week(0);
-        memberIs(uneven, 0, 1, 7, 0, 0, 0, 6);
-        memberIs(uneven, 1, 9, 5, 0, 0, 1, 12);
+        check.memberIs(uneven, 0, 1, 7, 0, 0, 0, 6);
+        check.memberIs(uneven, 1, 9, 5, 0, 0, 1, 12);
     }
 
     private static void weekOfCredits() {
@@ -614,25 +562,25 @@ public final class PromiseTests {
     }
 
     private static void undoOfPairs() {
-        TandemExchange x = loaded(TWO);
+        TandemExchange x = Circles.loaded(Circles.TWO);
         x.pair(0, 1);
         x.week(1);
         x.save(0);
         x.clearText();
         x.part(0);
         check.is(2, x.undo(), "undo() of part()");
-        memberIs(x, 0, 2, 9, 0, 0, 0, 0, 7, 1, 1, 1);
+        check.memberIs(x, 0, 2, 9, 0, 0, 0, 0, 7, 1, 1, 1);
         check.is(1, x.undo(), "undo() of week()");
-        memberIs(x, 0, 2, 9, 0, 0, 0, 0, 10, 0, 1, 0);
+        check.memberIs(x, 0, 2, 9, 0, 0, 0, 0, 10, 0, 1, 0);
         check.is(0, x.undo(), "undo() of pair()");
-        partnersAre(x, NONE, NONE);
+        check.partnersAre(x, NONE, NONE);
         check.is(0, x.clearText(), "clearText(): undo() leaves the text");
         check.is(1, x.restore(0), "restore(0): undo() leaves the slots");
     }
 
     private static void blocking() {
         check.part("promise 19");
-        TandemExchange x = loaded(CHAIN);
+        TandemExchange x = Circles.loaded(Circles.CHAIN);
         for (int i = 0; i < 3; i++) {
             check.is(i, x.blocking(i, false), "blocking(" + i + ", false)");
             check.is(i + 1, x.blocking(i, true), "blocking(" + i + ", true)");
@@ -640,7 +588,7 @@ public final class PromiseTests {
         check.is(NONE, x.blocking(3, false), "blocking(3, false)");
         check.is(NONE, x.blocking(Integer.MAX_VALUE, true), "blocking of the greatest int");
         check.badArgument(() -> x.blocking(-1, false), "blocking(-1, false)");
-        TandemExchange square = loaded(SQUARE);
+        TandemExchange square = Circles.loaded(Circles.SQUARE);
         int[] greater = {2, 3, 2, 3};
         for (int i = 0; i < 4; i++) {
             check.is(i / 2, square.blocking(i, false), "blocking(" + i + ", false)");
@@ -651,7 +599,7 @@ public final class PromiseTests {
 
     private static void bestPartner() {
         check.part("promise 20");
-        TandemExchange x = loaded("Lm0090000m1900000m1950019m1950020m1700099m1700000");
+        TandemExchange x = Circles.loaded("Lm0090000m1900000m1950019m1950020m1700099m1700000");
         // For member 0 the scores of 1 to 5 are 90, 94, 95, 94 and 70.
         check.is(3, x.bestPartner(0, false), "bestPartner(0, false)");
         check.is(3, x.bestPartner(0, true), "bestPartner(0, true)");
@@ -661,7 +609,7 @@ public final class PromiseTests {
         check.is(2, x.bestPartner(0, true), "bestPartner(0, true) without the partner");
         check.is(NONE, x.bestPartner(1, true), "bestPartner(1, true)");
         check.is(0, x.bestPartner(1, false), "bestPartner(1, false)");
-        check.is(NONE, loaded("Lm0000000").bestPartner(0, false), "bestPartner of the only one");
+        check.is(NONE, Circles.loaded("Lm0000000").bestPartner(0, false), "bestPartner of the only one");
         check.outOfBounds(() -> x.bestPartner(6, false), "bestPartner(6, false)");
         check.outOfBounds(() -> x.bestPartner(-1, true), "bestPartner(-1, true)");
         TandemExchange low = new TandemExchange();
@@ -676,7 +624,7 @@ public final class PromiseTests {
 
     private static void best() {
         check.part("promise 21");
-        TandemExchange x = loaded(CHAIN);
+        TandemExchange x = Circles.loaded(Circles.CHAIN);
         check.is(2, x.best(0), "best(0)");
         check.is(120, x.best(1), "best(1)");
         x.pair(1, 2);
@@ -695,7 +643,7 @@ public final class PromiseTests {
         none.join(1, 2000, -99);
         check.is(1, none.best(0), "best(0) with a value below 0");
         check.is(-10, none.best(1), "best(1) with a value below 0");
-        TandemExchange many = loaded("Lm0010000" + "m0070000m1900000".repeat(4));
+        TandemExchange many = Circles.loaded("Lm0010000" + "m0070000m1900000".repeat(4));
         check.is(4, many.best(0), "best(0) of nine");
         check.is(640, many.best(1), "best(1) of nine");
         bestOfSwappedPairs();
@@ -703,38 +651,39 @@ public final class PromiseTests {
 
     /** Matching takes 0 and 1 first for their value, and the sum of the other two ways is greater. */
     private static void bestOfSwappedPairs() {
-        TandemExchange x = loaded("Lm0390000m1930000m0570000m1750000m2999900");
+        TandemExchange x = Circles.loaded("Lm0390000m1930000m0570000m1750000m2999900");
         x.match();
         check.is(120 + 40, x.about(3), "about(3)");
         check.is(160, x.best(1), "best(1)");
-        TandemExchange y = loaded("Lm0050000m1930000m0590000m1700000");
+        TandemExchange y = Circles.loaded("Lm0050000m1930000m0590000m1700000");
         y.match();
-        partnersAre(y, 3, 2, 1, 0);
+        check.partnersAre(y, 3, 2, 1, 0);
         check.is(2, y.best(0), "best(0)");
         check.is(220, y.best(1), "best(1)");
     }
 
     private static void missedMost() {
         check.part("promise 22");
-        TandemExchange x = loaded(CHAIN);
+        TandemExchange x = Circles.loaded(Circles.CHAIN);
         check.is(1, x.missedMost(), "missedMost() of a chain");
         x.pair(0, 1);
         check.is(1, x.missedMost(), "missedMost() whoever the partners are");
-        check.is(0, loaded(SQUARE).missedMost(), "missedMost() of equals");
+        check.is(0, Circles.loaded(Circles.SQUARE).missedMost(), "missedMost() of equals");
         check.is(NONE, new TandemExchange().missedMost(), "missedMost() of nobody");
-        check.is(0, loaded("Lm0000000").missedMost(), "missedMost() of one");
+        check.is(0, Circles.loaded("Lm0000000").missedMost(), "missedMost() of one");
         TandemExchange low = new TandemExchange();
         low.join(2, 9999, 0);
         low.join(0, 200, -99);
         low.join(1, 2000, -99);
         check.is(1, low.missedMost(), "missedMost(): more pairs are more than a greater sum");
-        check.is(2, loaded("Lm0090000m0090000m1900000").missedMost(), "missedMost(): the only one of a kind");
-        check.is(3, loaded("Lm0090000m0090000m1900000m1900099").missedMost(), "missedMost(): the best of a kind");
+        check.is(2, Circles.loaded("Lm0090000m0090000m1900000").missedMost(), "missedMost(): the only one of a kind");
+        TandemExchange best = Circles.loaded("Lm0090000m0090000m1900000m1900099");
+        check.is(3, best.missedMost(), "missedMost(): the best of a kind");
     }
 
     private static void ahead() {
         check.part("promise 23");
-        TandemExchange x = paired(TWO, 0, 1);
+        TandemExchange x = Circles.paired(Circles.TWO, 0, 1);
         int[] now = {2, 9, 0, 0, 0, 0, 10, 0, 1, 0, 1};
         int[] afterTwo = {3, 9, 0, 0, 0, 0, 12, 0, 1, 0, 1};
         int[] missedTwo = {2, 9, 0, 0, 0, 0, 4, 2, 1, 2, 1};
@@ -755,20 +704,20 @@ public final class PromiseTests {
         check.badArgument(() -> x.ahead(0, 0, 512, 0), "ahead(0, 0, 512, 0)");
         check.badArgument(() -> x.ahead(0, 0, 0, -1), "ahead(0, 0, 0, -1)");
         check.badArgument(() -> x.ahead(0, 0, 0, 11), "ahead(0, 0, 0, 11)");
-        check.is(0, loaded(TWO).ahead(0, 9, 0, 5), "ahead(0, 9, 0, 5) without a pair");
+        check.is(0, Circles.loaded(Circles.TWO).ahead(0, 9, 0, 5), "ahead(0, 9, 0, 5) without a pair");
     }
 
     private static void levelAfter() {
         check.part("promise 24");
-        TandemExchange x = loaded(TWO);
+        TandemExchange x = Circles.loaded(Circles.TWO);
         int[] weeks = {0, 0, 0, 2, 5, 7, 10, 13, NONE, NONE};
         for (int level = 0; level <= 9; level++) {
             check.is(weeks[level], x.levelAfter(0, level), "levelAfter(0, " + level + ")");
         }
         check.is(2, x.levelAfter(1, 4), "levelAfter(1, 4)");
         check.is(0, x.about(1), "about(1)");
-        TandemExchange wide = loaded("Lm0080000m1980000m1800000");
-        check.is(NONE, loaded("Lm0080000m1980000").levelAfter(0, 1), "levelAfter(0, 1): nobody fits");
+        TandemExchange wide = Circles.loaded("Lm0080000m1980000m1800000");
+        check.is(NONE, Circles.loaded("Lm0080000m1980000").levelAfter(0, 1), "levelAfter(0, 1): nobody fits");
         check.is(2, wide.levelAfter(0, 1), "levelAfter(0, 1)");
         check.outOfBounds(() -> x.levelAfter(2, 0), "levelAfter(2, 0)");
         check.outOfBounds(() -> x.levelAfter(-1, 10), "levelAfter(-1, 10)");
@@ -779,7 +728,7 @@ public final class PromiseTests {
 
     /** When the first teacher of 0 no longer fits, a later matching finds the other one. */
     private static void matchingAheadOfEachWeek() {
-        TandemExchange x = loaded("Lm0390000m1600000m1700000");
+        TandemExchange x = Circles.loaded("Lm0390000m1600000m1700000");
         check.is(3, x.levelAfter(0, 4), "levelAfter(0, 4)");
         x.pair(0, 1);
         x.week(0);
@@ -793,7 +742,7 @@ public final class PromiseTests {
 
     private static void partsAfter() {
         check.part("promise 25");
-        TandemExchange x = paired(TWO, 0, 1);
+        TandemExchange x = Circles.paired(Circles.TWO, 0, 1);
         check.is(13, x.partsAfter(0, 0), "partsAfter(0, 0)");
         check.is(13, x.partsAfter(1, 508), "partsAfter(1, 508)");
         check.is(3, x.partsAfter(0, 1), "partsAfter(0, 1)");
@@ -816,7 +765,7 @@ public final class PromiseTests {
 
     private static void runScript() {
         check.part("promise 26");
-        TandemExchange x = loaded(CHAIN);
+        TandemExchange x = Circles.loaded(Circles.CHAIN);
         runs(x, NONE, 4, 1010_7010_7100_8001L);
         runs(x, NONE, 4, 1010_2000_1120_7210L);
         runs(x, 2, 4, 1010_1230_1120_8002L);
@@ -847,13 +796,13 @@ public final class PromiseTests {
 
     private static void fail(int... commands) {
         for (int command : commands) {
-            runs(loaded(CHAIN), 0, 1, command);
+            runs(Circles.loaded(Circles.CHAIN), 0, 1, command);
         }
     }
 
     private static void succeed(int... commands) {
         for (int command : commands) {
-            runs(loaded(CHAIN), NONE, 1, command);
+            runs(Circles.loaded(Circles.CHAIN), NONE, 1, command);
         }
     }
 
@@ -862,7 +811,7 @@ public final class PromiseTests {
         fail(0, 1, 999, 1011, 1020, 1000, 1040, 1400, 1090, 1900, 1990, 2000, 2400, 2900, 3001, 3010, 3100);
         fail(4000, 4051, 4099, 4101, 5512, 5999, 6400, 6900, 6040, 6090, 7010, 7000, 7040, 7400, 8001, 8010, 8100);
         fail(9004, 9040, 9400, 9990);
-        TandemExchange x = paired(CHAIN, 0, 1);
+        TandemExchange x = Circles.paired(Circles.CHAIN, 0, 1);
         runs(x, NONE, 1, 2000);
         runs(x, NONE, 1, 2100);
         runs(x, NONE, 1, 7010);
@@ -891,7 +840,7 @@ public final class PromiseTests {
     private static void simulate() {
         check.part("promise 27");
         check.is(0, new TandemExchange().simulate(0, 1), "simulate(0, 1) of nobody");
-        TandemExchange x = loaded(TWO);
+        TandemExchange x = Circles.loaded(Circles.TWO);
         x.pair(0, 1);
         for (long seed = -6; seed <= 6; seed++) {
             for (int m = 1; m <= 60; m += 59) {
@@ -909,7 +858,7 @@ public final class PromiseTests {
 
     /** The same rounds, by actions. */
     private static int simulated(long seed, int m) {
-        TandemExchange x = paired(TWO, 0, 1);
+        TandemExchange x = Circles.paired(Circles.TWO, 0, 1);
         java.math.BigInteger number = java.math.BigInteger.valueOf(seed);
         for (int i = 0; i < m; i++) {
             number = number.multiply(java.math.BigInteger.valueOf(6364136223846793005L))
@@ -925,7 +874,7 @@ public final class PromiseTests {
 
     private static void save() {
         check.part("promise 28");
-        TandemExchange x = paired(TWO, 0, 1);
+        TandemExchange x = Circles.paired(Circles.TWO, 0, 1);
         check.is(0, x.save(0), "save(0)");
         x.week(1);
         check.is(1, x.save(1), "save(1)");
@@ -933,19 +882,19 @@ public final class PromiseTests {
         check.outOfBounds(() -> x.save(-1), "save(-1)");
         check.is(1, x.undo(), "undo(): save() is no action");
         check.is(1, x.restore(1), "restore(1)");
-        memberIs(x, 0, 2, 9, 0, 0, 0, 0, 7, 1, 1, 1);
+        check.memberIs(x, 0, 2, 9, 0, 0, 0, 0, 7, 1, 1, 1);
         check.is(0, x.restore(0), "restore(0)");
-        memberIs(x, 0, 2, 9, 0, 0, 0, 0, 10, 0, 1, 0);
+        check.memberIs(x, 0, 2, 9, 0, 0, 0, 0, 10, 0, 1, 0);
         x.leave(1);
         check.is(0, x.save(0), "save(0) again");
         check.is(1, x.restore(1), "restore(1)");
         check.is(0, x.restore(0), "restore(0)");
-        aboutIs(x, 1, 0, 0, 0, 0, 10, 0);
+        check.aboutIs(x, 1, 0, 0, 0, 0, 10, 0);
     }
 
     private static void restore() {
         check.part("promise 29");
-        TandemExchange x = loaded(TWO);
+        TandemExchange x = Circles.loaded(Circles.TWO);
         check.badState(() -> x.restore(0), "restore(0) of an empty slot");
         x.pair(0, 1);
         x.save(0);
@@ -956,20 +905,20 @@ public final class PromiseTests {
         check.outOfBounds(() -> x.restore(-1), "restore(-1)");
         check.is(2, x.undo(), "undo() after restores that throw");
         check.is(0, x.restore(0), "restore(0)");
-        partnersAre(x, 1, 0);
-        aboutIs(x, 2, 1, 0, 125, 0, 23, 1);
+        check.partnersAre(x, 1, 0);
+        check.aboutIs(x, 2, 1, 0, 125, 0, 23, 1);
         check.badState(() -> x.undo(), "undo() after restore()");
         x.want(0, 3);
         check.is(0, x.restore(0), "restore(0): the slot keeps it");
-        partnersAre(x, 1, 0);
+        check.partnersAre(x, 1, 0);
         check.is(17, x.clearText(), "clearText() after restore()");
     }
 
     /** Five members want what four others teach, and the other way round; all are equally good. */
     private static void nineMembers() {
         check.part("nine members");
-        TandemExchange x = loaded("L" + "m0090000m1900000".repeat(4) + "m0090000");
-        aboutIs(x, 9, 0, 0, 0, 20, 0, 20);
+        TandemExchange x = Circles.loaded("L" + "m0090000m1900000".repeat(4) + "m0090000");
+        check.aboutIs(x, 9, 0, 0, 0, 20, 0, 20);
         for (int a = 0; a < 9; a++) {
             check.is(4 + a % 2, x.member(a, 10), "member(" + a + ", 10)");
             check.is(1 - a % 2, x.bestPartner(a, true), "bestPartner(" + a + ", true)");
@@ -983,16 +932,16 @@ public final class PromiseTests {
         check.is(4, x.settle(50), "settle(50)");
         x.undo();
         check.is(4, x.match(), "match()");
-        aboutIs(x, 9, 4, 0, 720, 0, 0, 20);
+        check.aboutIs(x, 9, 4, 0, 720, 0, 0, 20);
         check.is(4, x.week(256), "week(256)");
-        aboutIs(x, 9, 4, 1, 720, 0, 8, 20);
+        check.aboutIs(x, 9, 4, 1, 720, 0, 8, 20);
         x.leave(1);
-        partnersAre(x, NONE, 2, 1, 4, 3, 6, 5, NONE);
-        aboutIs(x, 8, 3, 1, 540, 0, 7, 15);
+        check.partnersAre(x, NONE, 2, 1, 4, 3, 6, 5, NONE);
+        check.aboutIs(x, 8, 3, 1, 540, 0, 7, 15);
         x.leave(7);
         x.leave(0);
-        partnersAre(x, 1, 0, 3, 2, 5, 4);
-        aboutIs(x, 6, 3, 1, 540, 0, 6, 9);
+        check.partnersAre(x, 1, 0, 3, 2, 5, 4);
+        check.aboutIs(x, 6, 3, 1, 540, 0, 6, 9);
         check.is(0, x.settle(50), "settle(50) without blocking members");
         check.is(6, x.join(1, 9999, 0), "join(1, 9999, 0)");
         check.is(3, x.best(0), "best(0)");
@@ -1002,7 +951,7 @@ public final class PromiseTests {
 
     private static void questionsChangeNothing() {
         check.part("pairs, forecasts, scripts and simulations change nothing");
-        TandemExchange x = paired(CHAIN, 0, 1);
+        TandemExchange x = Circles.paired(Circles.CHAIN, 0, 1);
         x.week(1);
         x.blocking(1, true);
         x.bestPartner(0, true);
@@ -1013,9 +962,9 @@ public final class PromiseTests {
         x.partsAfter(1, 4);
         x.runScript(4, 3000_5000_6009_2000L);
         x.simulate(77, 60);
-        partnersAre(x, 1, 0, NONE, NONE);
-        memberIs(x, 0, 5, 2, 0, 0, 0, 0, -3, 1, 1, 1);
-        memberIs(x, 2, 0, 9, 0, 0, 0, 0, 0, 0, NONE, NONE);
+        check.partnersAre(x, 1, 0, NONE, NONE);
+        check.memberIs(x, 0, 5, 2, 0, 0, 0, 0, -3, 1, 1, 1);
+        check.memberIs(x, 2, 0, 9, 0, 0, 0, 0, 0, 0, NONE, NONE);
         check.is(1, x.about(2), "about(2)");
         check.is(1, x.undo(), "undo()");
     }

@@ -1,7 +1,7 @@
 /**
  * A circle for the exchange of languages. The document ../shared/DOC.md says what each call answers.
  *
- * <p>All rows are made by the constructors and used again, so that no call makes an object.
+ * <p>All rows are made by the constructors and used again, so that no call makes an object but for what it throws.
  */
 public final class TandemExchange {
     public static final int NONE = -9999;
